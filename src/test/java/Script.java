@@ -1,0 +1,95 @@
+import java.lang.reflect.InvocationTargetException;
+import java.lang.reflect.Method;
+import java.util.Set;
+
+/**
+ * Runs of calls written as the document writes its examples: "athlete(0) = 0; status(0) = -; next() = throws X".
+ * The calls of a run go to one new object. Beside each answer it is looked at whether the object is sound,
+ * and whether a call that only asks, or that throws, has left everything as it was. A line after # is a comment.
+ */
+final class Script {
+    private static final Set<String> ASKING = Set.of("found", "belongs", "status", "classOf", "money", "year", "until",
+            "fell", "time", "inClass", "at", "place", "slot", "record", "onFloor", "points", "checksum", "fallenShare",
+            "meanLack", "isSound");
+    private static final String THROWS = "throws ";
+
+    private static int wrong;
+    private static int right;
+
+    private final String title;
+    private final EvenstartGames games = new EvenstartGames();
+
+    private Script(String title) {
+        this.title = title;
+    }
+
+    static void run(String title, String calls) {
+        Script script = new Script(title);
+        for (String call : calls.replaceAll("#[^\n]*", "").split(";")) {
+            if (!call.isBlank()) {
+                script.check(call.trim());
+            }
+        }
+    }
+
+    /** Tells how it went, and ends the program with 1 if an answer was wrong. */
+    static void end() {
+        System.out.println(right + " calls as due, " + wrong + " not");
+        if (wrong != 0 || right == 0) {
+            System.exit(1);
+        }
+    }
+
+    private void check(String statement) {
+        int open = statement.indexOf('(');
+        int shut = statement.indexOf(')');
+        int equal = statement.indexOf('=', shut);
+        if (open < 0 || shut < open || equal < 0) {
+            fail(statement, "not a call with an answer");
+            return;
+        }
+        String name = statement.substring(0, open).trim();
+        String due = statement.substring(equal + 1).trim();
+        String before = Snapshot.of(games);
+        String got = answer(name, numbers(statement.substring(open + 1, shut)));
+        if (!got.equals(due)) {
+            fail(statement, got);
+        } else if ((ASKING.contains(name) || due.startsWith(THROWS)) && !before.equals(Snapshot.of(games))) {
+            fail(statement, got + " but something changed");
+        } else if (!games.isSound()) {
+            fail(statement, got + " but the games are not sound");
+        } else {
+            right++;
+        }
+    }
+
+    private void fail(String statement, String got) {
+        wrong++;
+        System.out.println(title + ": " + statement + ", answered " + got);
+    }
+
+    private static Object[] numbers(String text) {
+        if (text.isBlank()) {
+            return new Object[0];
+        }
+        String[] parts = text.split(",");
+        Object[] numbers = new Object[parts.length];
+        for (int i = 0; i < parts.length; i++) {
+            numbers[i] = Integer.valueOf(parts[i].trim());
+        }
+        return numbers;
+    }
+
+    private String answer(String name, Object[] numbers) {
+        Class<?>[] types = new Class<?>[numbers.length];
+        java.util.Arrays.fill(types, int.class);
+        try {
+            Method method = EvenstartGames.class.getMethod(name, types);
+            return String.valueOf(method.invoke(games, numbers));
+        } catch (InvocationTargetException e) {
+            return THROWS + e.getCause().getClass().getSimpleName();
+        } catch (ReflectiveOperationException e) {
+            return "no such call: " + e;
+        }
+    }
+}
