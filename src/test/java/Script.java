@@ -49,7 +49,7 @@ final class Script {
             return;
         }
         String name = statement.substring(0, open).trim();
-        String due = statement.substring(equal + 1).trim();
+        String due = statement.substring(equal + 1).trim().replaceAll("\\s+", " ");
         String before = Snapshot.of(games);
         String got = answer(name, numbers(statement.substring(open + 1, shut)));
         if (!got.equals(due)) {
