@@ -921,17 +921,6 @@ public final class EvenstartGames {
             return count;
         }
 
-        private int countAhead(Entry entry) {
-            int count = 0;
-            for (int i = 0; i < entries.length; i++) {
-                Entry other = entries[i];
-                if (other != null && other.hasTime() && other.isAheadOf(entry)) {
-                    count++;
-                }
-            }
-            return count;
-        }
-
         private int countOfLandAhead(Entry entry) {
             int count = 0;
             for (int i = 0; i < entries.length; i++) {
@@ -944,15 +933,29 @@ public final class EvenstartGames {
             return count;
         }
 
-        /** The entry at an index in the order of places, null if there is none. */
-        Entry inOrder(int index) {
+        /** The one behind another in the order of places, the first one behind null, null behind the last one. */
+        private Entry nextInOrder(Entry before) {
+            Entry next = null;
             for (int i = 0; i < entries.length; i++) {
                 Entry entry = entries[i];
-                if (entry != null && entry.hasTime() && countAhead(entry) == index) {
-                    return entry;
+                if (entry != null && entry.hasTime() && (before == null || before.isAheadOf(entry))
+                        && (next == null || entry.isAheadOf(next))) {
+                    next = entry;
                 }
             }
-            return null;
+            return next;
+        }
+
+        /** The entry at an index in the order of places, null if there is none. */
+        Entry inOrder(int index) {
+            if (index < 0 || index >= entries.length) {
+                return null;
+            }
+            Entry entry = nextInOrder(null);
+            for (int i = 0; i < index && entry != null; i++) {
+                entry = nextInOrder(entry);
+            }
+            return entry;
         }
 
         /**
@@ -961,17 +964,15 @@ public final class EvenstartGames {
          */
         Entry inOrderOfSlots(int index) {
             int given = 0;
-            for (int i = 0; i < entries.length; i++) {
-                Entry entry = inOrder(i);
-                if (entry == null) {
-                    return null;
-                }
+            Entry entry = nextInOrder(null);
+            for (int i = 0; i < entries.length && entry != null; i++) {
                 if (countOfLandAhead(entry) < SLOTS_OF_A_LAND) {
                     if (given == index) {
                         return entry;
                     }
                     given++;
                 }
+                entry = nextInOrder(entry);
             }
             return null;
         }

@@ -183,7 +183,8 @@ public final class ModelTest {
         try {
             return String.valueOf(call.invoke(target, numbers));
         } catch (InvocationTargetException e) {
-            return "throws " + e.getCause().getClass().getName();
+            Throwable cause = e.getCause();
+            return "throws " + (target instanceof Model ? cause.getClass().getSimpleName() : Script.thrown(cause));
         }
     }
 }

@@ -80,6 +80,16 @@ final class Script {
         return numbers;
     }
 
+    /**
+     * The name of an exception, with a remark if a line of the library or the machine threw it, not a line of the
+     * class: a list's get, for one, throws the very IndexOutOfBoundsException that the document names.
+     */
+    static String thrown(Throwable exception) {
+        StackTraceElement[] trace = exception.getStackTrace();
+        boolean own = trace.length > 0 && trace[0].getClassName().startsWith("EvenstartGames");
+        return exception.getClass().getSimpleName() + (own ? "" : " from elsewhere");
+    }
+
     private String answer(String name, Object[] numbers) {
         Class<?>[] types = new Class<?>[numbers.length];
         java.util.Arrays.fill(types, int.class);
@@ -87,7 +97,7 @@ final class Script {
             Method method = EvenstartGames.class.getMethod(name, types);
             return String.valueOf(method.invoke(games, numbers));
         } catch (InvocationTargetException e) {
-            return THROWS + e.getCause().getClass().getSimpleName();
+            return THROWS + thrown(e.getCause());
         } catch (ReflectiveOperationException e) {
             return "no such call: " + e;
         }
