@@ -682,8 +682,8 @@ public final class EvenstartGames {
 
         int sumOfLacks() {
             int sum = 0;
-            for (int i = 0; i < MEASURES; i++) {
-                sum += lackOf(i);
+            for (int i = 0; i < values.length; i++) {
+                sum += FULL - values[i];
             }
             return sum;
         }
