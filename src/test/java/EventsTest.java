@@ -57,8 +57,9 @@ public final class EventsTest {
                 kind(0, 20, 20, 150) = 1; kind(0, 20, 20, 150) = 2; event(5) = 0; event(2) = 1;
                 factor(0, 0, 50) = 100; factor(0, 0, 100) = 50; factor(0, 2, 70) = 100; factor(0, 2, 70) = 70;
                 factor(0, 0, 99) = 100; factor(1, 1, 60) = 100;
-                factor(0, 1, 70) = throws IndexOutOfBoundsException; factor(0, 1, 49) = throws IndexOutOfBoundsException;
-                factor(0, 3, 70) = throws IndexOutOfBoundsException; factor(0, -1, 70) = throws
+                factor(0, 1, 70) = throws IndexOutOfBoundsException; factor(0, 1, 49) = throws
+                IndexOutOfBoundsException; factor(0, 3, 70) = throws IndexOutOfBoundsException;
+                factor(0, -1, 70) = throws
                 IndexOutOfBoundsException; factor(0, 32, 70) = throws IndexOutOfBoundsException;
                 factor(0, 2147483647, 70) = throws IndexOutOfBoundsException;
                 factor(2, 0, 70) = throws IndexOutOfBoundsException; factor(-1, 0, 70) = throws

@@ -62,7 +62,8 @@ public final class FaceTest {
 
     private static final String[] FORBIDDEN = {"->", "::", "\\btry\\b", "\\bcatch\\b", "\\bfinally\\b",
         "\\bsynchronized\\b", "\\bassert\\b", "\\bprotected\\b", "\\bvar\\b", "\\bnative\\b", "\\bvolatile\\b",
-        "\\bequals\\(", "\\bhashCode\\(", "\\btoString\\(", "\\bMath\\.", "\\bSystem\\.", "Exact\\(", "\" \\+", "\\+ \"",
+        "\\bequals\\(", "\\bhashCode\\(", "\\btoString\\(", "\\bMath\\.", "\\bSystem\\.", "Exact\\(",
+        "\" \\+", "\\+ \"",
         "new RuntimeException", "\\(Object\\)", "@"};
 
     private static int wrong;

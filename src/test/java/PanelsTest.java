@@ -267,8 +267,9 @@ public final class PanelsTest {
     private static void borders() {
         Script.run("15: wrong numbers", """
                 border(0, 10, 5) = throws IndexOutOfBoundsException; kind(0, 20, 20, 150) = 0;
-                border(1, 10, 5) = throws IndexOutOfBoundsException; border(-1, 0, 5) = throws IndexOutOfBoundsException;
-                border(0, 10, 9) = throws IllegalArgumentException; border(0, -1, 9) = throws IllegalArgumentException;
+                border(1, 10, 5) = throws IndexOutOfBoundsException; border(-1, 0, 5) = throws
+                IndexOutOfBoundsException; border(0, 10, 9) = throws IllegalArgumentException;
+                border(0, -1, 9) = throws IllegalArgumentException;
                 border(0, 0, 501) = throws IllegalArgumentException; border(0, 501, 501) = throws
                 IllegalArgumentException; border(0, 0, 0) = 0; border(0, 500, 500) = 0; border(0, 0, 500) = 0;
                 """);

@@ -12,24 +12,30 @@ final class Script {
             "fell", "time", "inClass", "at", "place", "slot", "record", "onFloor", "points", "checksum", "fallenShare",
             "meanLack", "isSound");
     private static final String THROWS = "throws ";
+    /** What later calls answer is free. */
+    private static final int MOST_CALLS = 512;
 
     private static int wrong;
     private static int right;
 
     private final String title;
     private final EvenstartGames games = new EvenstartGames();
+    private int calls;
 
     private Script(String title) {
         this.title = title;
     }
 
-    static void run(String title, String calls) {
+    /** Runs the calls, and tells whether there was one. */
+    static boolean run(String title, String calls) {
         Script script = new Script(title);
+        int before = right + wrong;
         for (String call : calls.replaceAll("#[^\n]*", "").split(";")) {
             if (!call.isBlank()) {
                 script.check(call.trim());
             }
         }
+        return right + wrong > before;
     }
 
     /** Tells how it went, and ends the program with 1 if an answer was wrong. */
@@ -50,17 +56,25 @@ final class Script {
         }
         String name = statement.substring(0, open).trim();
         String due = statement.substring(equal + 1).trim().replaceAll("\\s+", " ");
-        String before = Snapshot.of(games);
+        String before = Inside.of(games);
+        calls += 2;
         String got = answer(name, numbers(statement.substring(open + 1, shut)));
-        if (!got.equals(due)) {
+        if (calls > MOST_CALLS) {
+            fail(statement, got + " but, with isSound behind each call, more than 512 calls went to the object");
+        } else if (!got.equals(due)) {
             fail(statement, got);
-        } else if ((ASKING.contains(name) || due.startsWith(THROWS)) && !before.equals(Snapshot.of(games))) {
+        } else if (mustLeaveAll(name, due) && !before.equals(Inside.of(games))) {
             fail(statement, got + " but something changed");
         } else if (!games.isSound()) {
             fail(statement, got + " but the games are not sound");
         } else {
             right++;
         }
+    }
+
+    /** Whether a call with such an answer must leave all as it was: it only asks, or throws. */
+    static boolean mustLeaveAll(String name, String answer) {
+        return ASKING.contains(name) || answer.startsWith(THROWS);
     }
 
     private void fail(String statement, String got) {

@@ -92,16 +92,20 @@ public final class SoundTest {
     }
 
     private static void entries() throws ReflectiveOperationException {
-        EvenstartGames games = games();
-        Object other = listed(games, "kinds", 1);
-        Object entry = ((Object[]) get(listed(games, "events", 0), "entries"))[1];
-        set(entry, "kind", other);
-        due("an open entry of another class", games.isSound(), false);
-        set(entry, "fell", true);
-        due("an open entry of another class that fell", games.isSound(), true);
-        set(entry, "fell", false);
-        set(listed(games, "events", 0), "closed", true);
-        due("a closed entry of another class", games.isSound(), true);
+        for (int athlete = 0; athlete < 3; athlete++) {
+            EvenstartGames games = games();
+            Object other = listed(games, "kinds", 1);
+            Object entry = ((Object[]) get(listed(games, "events", 0), "entries"))[athlete];
+            set(entry, "kind", other);
+            due("an open entry of another class", games.isSound(), false);
+            set(listed(games, "events", 0), "began", false);
+            due("an entry of another class in an event that did not begin", games.isSound(), false);
+            set(entry, "fell", true);
+            due("an open entry of another class that fell", games.isSound(), true);
+            set(entry, "fell", false);
+            set(listed(games, "events", 0), "closed", true);
+            due("a closed entry of another class", games.isSound(), true);
+        }
     }
 
     private static void classes() throws ReflectiveOperationException {
