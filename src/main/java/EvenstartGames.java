@@ -275,12 +275,12 @@ public final class EvenstartGames {
 
     public int begin(int event) throws IndexOutOfBoundsException, UnsupportedOperationException {
         Event begun = needEvent(event);
-        int standing = begun.countStanding();
-        if (begun.began || standing < LEAST_ENTRIES || begun.countLandsStanding() < LEAST_LANDS) {
+        int notFallen = begun.countNotFallen();
+        if (begun.began || notFallen < LEAST_ENTRIES || begun.countLandsNotFallen() < LEAST_LANDS) {
             throw new UnsupportedOperationException("the event began, or has not enough entries");
         }
         begun.began = true;
-        return standing;
+        return notFallen;
     }
 
     public int result(int event, int athlete, int tenths, int guide)
@@ -385,18 +385,18 @@ public final class EvenstartGames {
         needLand(land);
         Athlete leaves = needAthlete(out);
         Athlete comes = needAthlete(into);
-        if (leaves.land != land || !leaves.stands) {
+        if (leaves.land != land || !leaves.standsOnFloor) {
             throw new IllegalArgumentException("the one is not on the floor");
         }
-        if (comes.land != land || comes.stands) {
+        if (comes.land != land || comes.standsOnFloor) {
             throw new IllegalArgumentException("the other one is on the floor, or of another land");
         }
         int sum = pointsOf(bitsOnFloor(land)) - leaves.pointsByNow() + comes.pointsByNow();
         if (comes.kind == null || sum > MOST_POINTS) {
             throw new UnsupportedOperationException("no class, or the points would be above 12");
         }
-        leaves.stands = false;
-        comes.stands = true;
+        leaves.standsOnFloor = false;
+        comes.standsOnFloor = true;
         return sum;
     }
 
@@ -428,15 +428,15 @@ public final class EvenstartGames {
 
     public float fallenShare() throws NoSuchElementException {
         int all = 0;
-        int standing = 0;
+        int notFallen = 0;
         for (int i = 0; i < events.size(); i++) {
             all += events.get(i).countEntries();
-            standing += events.get(i).countStanding();
+            notFallen += events.get(i).countNotFallen();
         }
         if (all == 0) {
             throw new NoSuchElementException("there are no entries");
         }
-        return (float) (all - standing) / (float) all;
+        return (float) (all - notFallen) / (float) all;
     }
 
     public double meanLack(int athlete) throws IndexOutOfBoundsException {
@@ -575,7 +575,7 @@ public final class EvenstartGames {
         who.status = status;
         who.until = presentYear + YEARS_TO_WAIT;
         if (kind == null) {
-            who.stands = false;
+            who.standsOnFloor = false;
         }
     }
 
@@ -639,7 +639,7 @@ public final class EvenstartGames {
     private void putOnFloor(int land, int bits) {
         for (int i = 0; i < athletes.size(); i++) {
             if (athletes.get(i).land == land) {
-                athletes.get(i).stands = hasBit(bits, i);
+                athletes.get(i).standsOnFloor = hasBit(bits, i);
             }
         }
     }
@@ -647,7 +647,7 @@ public final class EvenstartGames {
     private int bitsOnFloor(int land) {
         int bits = 0;
         for (int i = 0; i < athletes.size(); i++) {
-            if (athletes.get(i).land == land && athletes.get(i).stands) {
+            if (athletes.get(i).land == land && athletes.get(i).standsOnFloor) {
                 bits |= 1 << i;
             }
         }
@@ -709,7 +709,7 @@ public final class EvenstartGames {
         Kind kind;
         /** Of meaning only while a ban or a review lasts. */
         int until;
-        boolean stands;
+        boolean standsOnFloor;
 
         Athlete(int number, int land) {
             this.number = number;
@@ -751,7 +751,7 @@ public final class EvenstartGames {
             if (status == CONFIRMED && (kind == null || !kind.holds(found))) {
                 return false;
             }
-            if (stands && (status == BANNED || kind == null)) {
+            if (standsOnFloor && (status == BANNED || kind == null)) {
                 return false;
             }
             return kind == null || mayCompete();
@@ -877,7 +877,7 @@ public final class EvenstartGames {
             return count;
         }
 
-        int countStanding() {
+        int countNotFallen() {
             int count = 0;
             for (int i = 0; i < entries.length; i++) {
                 Entry entry = entries[i];
@@ -888,7 +888,7 @@ public final class EvenstartGames {
             return count;
         }
 
-        int countLandsStanding() {
+        int countLandsNotFallen() {
             int lands = 0;
             for (int i = 0; i < entries.length; i++) {
                 Entry entry = entries[i];

@@ -509,4 +509,36 @@ final class Model {
     boolean isSound() {
         return true;
     }
+
+    /** The athletes with a result in an event, as bits, none if there is no such event; so ModelTest finds them. */
+    int withResult(int event) {
+        return in(event, 0, runs.size() - 1) ? bits(new TreeSet<>(runs.get(event).times.keySet())) : 0;
+    }
+
+    /** The athletes whose result can come in an event. */
+    int awaited(int event) {
+        if (!in(event, 0, runs.size() - 1) || !runs.get(event).began || runs.get(event).closed) {
+            return 0;
+        }
+        TreeSet<Integer> awaited = new TreeSet<>(runs.get(event).kindOfEntry.keySet());
+        awaited.removeAll(runs.get(event).fallen);
+        awaited.removeAll(runs.get(event).times.keySet());
+        return bits(awaited);
+    }
+
+    /** The athletes of a land who have a class. */
+    int withClass(int land) {
+        TreeSet<Integer> found = new TreeSet<>();
+        for (int athlete = 0; athlete < people.size(); athlete++) {
+            if (people.get(athlete).land == land && people.get(athlete).kind != -1) {
+                found.add(athlete);
+            }
+        }
+        return bits(found);
+    }
+
+    /** The athletes on the floor of a land. */
+    int standing(int land) {
+        return in(land, 0, 5) ? bits(floors.get(land)) : 0;
+    }
 }

@@ -86,7 +86,7 @@ public final class ModelTest {
         for (int i = 0; i < CALLS; i++) {
             int which = numberOf(i < first.length ? first[i] : LATER[any(LATER.length)]);
             String name = calls.get(which).getName();
-            Object[] numbers = numbersFor(calls.get(which));
+            Object[] numbers = numbersFor(calls.get(which), model);
             String before = run < LOOKED_INTO ? Inside.of(games) : "";
             String got = answer(calls.get(which), games, numbers);
             String due = answer(modelCalls.get(which), model, numbers);
@@ -125,12 +125,45 @@ public final class ModelTest {
     }
 
     /** Mostly numbers that make sense for the call, now and then one that may not. */
-    private Object[] numbersFor(Method call) {
+    private Object[] numbersFor(Method call, Model model) {
         Object[] numbers = new Object[call.getParameterCount()];
         for (int i = 0; i < numbers.length; i++) {
             numbers[i] = any(100) == 0 ? WILD[any(WILD.length)] : sensible(call.getName(), i);
+            if (i > 0 && any(3) != 0) {
+                numbers[i] = fitting(call.getName(), i, (Integer) numbers[0], (Integer) numbers[i], model);
+            }
         }
         return numbers;
+    }
+
+    /** Numbers that the model says to have an answer behind the first one: by chance alone few calls would have one. */
+    private int fitting(String name, int index, int first, int otherwise, Model model) {
+        switch (name + " " + index) {
+            case "time 1", "place 1", "inClass 1", "fell 1":
+                return oneOfBits(model.withResult(first), otherwise);
+            case "result 1":
+                return oneOfBits(model.awaited(first), otherwise);
+            case "floor 1":
+                return someOf(model.withClass(first));
+            case "swap 1":
+                return oneOfBits(model.standing(first), otherwise);
+            case "swap 2":
+                return oneOfBits(model.withClass(first) & ~model.standing(first), otherwise);
+            default:
+                return otherwise;
+        }
+    }
+
+    private int oneOfBits(int bits, int otherwise) {
+        int number = bits == 0 ? otherwise : any(32);
+        while (bits != 0 && (bits >>> number & 1) == 0) {
+            number = any(32);
+        }
+        return number;
+    }
+
+    private int someOf(int bits) {
+        return bits & any(1 << 16) & (any(2) == 0 ? any(1 << 16) : -1);
     }
 
     private int sensible(String name, int index) {
@@ -188,7 +221,7 @@ public final class ModelTest {
         return any(wide ? 8 : 4);
     }
 
-    /** The lands of athletes are any, so a floor of several is seldom right, but then long runs are many. */
+    /** The lands of athletes are any, so such a floor of several is seldom right. */
     private int someFloor() {
         int bits = 0;
         int many = any(4);

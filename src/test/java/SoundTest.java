@@ -83,11 +83,11 @@ public final class SoundTest {
         games.body(0, 0, 90);
         games.protest(5, 0);
         due("banned", games.isSound(), true);
-        set(first, "stands", true);
+        set(first, "standsOnFloor", true);
         due("banned on the floor", games.isSound(), false);
         set(first, "status", 'e');
         due("without a class on the floor", games.isSound(), false);
-        set(first, "stands", false);
+        set(first, "standsOnFloor", false);
         due("without a class and not on the floor", games.isSound(), true);
     }
 
